@@ -45,7 +45,7 @@ public final class GearBrake {
     private static final long WISH_BELOW_SPAN = 10;
     private static final long WISH_ABOVE_SPAN = 30;
 
-    // Above any common divisor's count of divisions: two longs need fewer than 100.
+    // Two longs need fewer divisions than this; it is there so that the loop's end can be seen.
     private static final int MOST_DIVISIONS = 100;
 
     private final Wheel[] wheels;

@@ -51,6 +51,9 @@ final class Promise03StepGearTest {
         GearBrake car = inGear(2);
         car.wheel(1, 80);
         DUE.is("step(0, 30)", car.step(0, 30), 2);
+        car.wheel(1, 50);
+        DUE.is("step(0, -1)", car.step(0, -1), 2);
+        DUE.is("step(0, -30)", car.step(0, -30), 2);
         car.wheel(1, 51);
         DUE.is("step(0, 1)", car.step(0, 1), 2);
         DUE.is("step(0, -30)", car.step(0, -30), 3);

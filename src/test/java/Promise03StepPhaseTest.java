@@ -63,6 +63,17 @@ final class Promise03StepPhaseTest {
         GearBrake standing = new GearBrake(2);
         standing.step(55, 0);
         DUE.wheelIs(standing, 1, Cars.FREE, 55);
+
+        GearBrake stopping = Cars.rolling(4, 0);
+        stopping.step(40, 0);
+        stopping.wheel(1, 0);
+        stopping.step(40, 0);
+        DUE.is("reference()", stopping.reference(), 1);
+        DUE.wheelIs(stopping, 2, Cars.RELEASING, 0);
+        stopping.step(40, 0);
+        DUE.is("reference()", stopping.reference(), 0);
+        DUE.wheelIs(stopping, 1, Cars.FREE, 40);
+        DUE.wheelIs(stopping, 2, Cars.FREE, 40);
     }
 
     private static void holdingStays() {

@@ -74,7 +74,7 @@ final class Promise03StepReferenceTest {
         car.step(1, 0);
         DUE.is("reference(), the wheel is at 35", car.reference(), 35);
         car.wheel(1, 31);
-        car.step(100, 0);
+        car.step(1, 0);
         DUE.is("reference(), the wheel is below 32", car.reference(), 32);
         car.wheel(1, 700);
         car.step(100, 0);
