@@ -1,3 +1,5 @@
+import java.util.Arrays;
+
 /** Cars in the states that the tests begin from. */
 final class Cars {
     static final int FREE = 0;
@@ -24,6 +26,15 @@ final class Cars {
         for (int i = 0; i < times; i++) {
             car.step(pedal, slope);
         }
+    }
+
+    /** A car whose wheels all have the speed 40, in gear 2, after one step with the pedal at 50. */
+    static GearBrake braking(int wheels) {
+        long[] speeds = new long[wheels];
+        Arrays.fill(speeds, 40);
+        GearBrake car = rolling(speeds);
+        car.step(50, 0);
+        return car;
     }
 
     /** A car of two wheels whose reference is as given, after one step with no pedal. */

@@ -1,15 +1,24 @@
 /** Compares answers with what is due, prints each that differs, and ends the program with 1 if one did. */
 final class Due {
     private final String title;
+    private String sentence = "";
     private int calls;
+    private int callsOfSentence;
     private int wrong;
 
     Due(String title) {
         this.title = title;
     }
 
+    /** The sentence of the document that the answers from now on are due by. */
+    void by(String next) {
+        sentenceHasCalls();
+        sentence = next;
+        callsOfSentence = 0;
+    }
+
     void is(String call, long got, long want) {
-        calls++;
+        count();
         if (got != want) {
             tell(call + " answered " + got + ", due is " + want);
         }
@@ -17,21 +26,28 @@ final class Due {
 
     /** Doubles are due to the last bit; both zeros are the same. */
     void isModel(String call, double got, double want) {
-        calls++;
+        count();
         if (got != want) {
             tell(call + " answered " + got + ", due is " + want);
         }
     }
 
+    void isText(String what, String got, String want) {
+        count();
+        if (!got.equals(want)) {
+            tell(what + " is " + got + ", due is " + want);
+        }
+    }
+
     void isTrue(String what, boolean holds) {
-        calls++;
+        count();
         if (!holds) {
             tell(what + " does not hold");
         }
     }
 
     void slipThrows(GearBrake car, int w, int side) {
-        calls++;
+        count();
         try {
             long got = car.slip(w, side);
             tell("slip(" + w + ", " + side + ") answered " + got + ", due is an ArithmeticException");
@@ -53,14 +69,27 @@ final class Due {
     }
 
     void end() {
+        sentenceHasCalls();
         System.out.println(title + ": " + (calls - wrong) + " of " + calls + " as due");
         if (wrong > 0 || calls == 0) {
             System.exit(1);
         }
     }
 
+    private void count() {
+        calls++;
+        callsOfSentence++;
+    }
+
+    /** A sentence that nothing was compared for would look as if it held. */
+    private void sentenceHasCalls() {
+        if (!sentence.isEmpty() && callsOfSentence == 0) {
+            tell("nothing was compared");
+        }
+    }
+
     private void tell(String what) {
         wrong++;
-        System.out.println(title + ": " + what);
+        System.out.println(title + (sentence.isEmpty() ? "" : ", \"" + sentence + "\"") + ": " + what);
     }
 }
