@@ -6,6 +6,7 @@ final class EdgesOfHoldTest {
         comesWhenTheReferenceIsZero();
         comesNotAboveZero();
         comesWhenItIsZeroAgain();
+        pressesInTheNextStep();
         oneThatThereIsStays();
         noneIsAskedFor();
         goneAboveTwenty();
@@ -53,6 +54,18 @@ final class EdgesOfHoldTest {
         DUE.is("hold(true) at 0", car.hold(true), 1);
         car.step(0, 0);
         DUE.is("pressure(1)", car.pressure(1), 30);
+    }
+
+    private static void pressesInTheNextStep() {
+        DUE.by("A HOLD is asked for: it presses in a STEP, and not before");
+        GearBrake car = new GearBrake(2);
+        car.hold(true);
+        DUE.is("pressure(1) before the step", car.pressure(1), 0);
+        car.bound(2, 10);
+        DUE.is("pressure(2) before the step", car.pressure(2), 0);
+        car.step(0, 0);
+        DUE.is("pressure(1)", car.pressure(1), 30);
+        DUE.is("pressure(2)", car.pressure(2), 10);
     }
 
     private static void oneThatThereIsStays() {

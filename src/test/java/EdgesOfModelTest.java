@@ -8,6 +8,7 @@ final class EdgesOfModelTest {
         fallsWithoutSpeed();
         lessThePressure();
         zeroIfBelowZero();
+        zeroIfLittleBelowZero();
         notZeroIfAboveZero();
         pressureAfterHoldAndBound();
         notWithoutAStep();
@@ -72,6 +73,17 @@ final class EdgesOfModelTest {
         }
         modelIs(new GearBrake(2), 1, 0.0);
         modelIs(new GearBrake(2), 100, 0.0);
+    }
+
+    /** 0.0625 less its eighth, less 0.0625 again: the least that the model can come below 0 from there. */
+    private static void zeroIfLittleBelowZero() {
+        DUE.by("then 0 if it is below 0: by little");
+        GearBrake car = Cars.rolling(1, 1);
+        car.lost(1, true);
+        modelIs(car, 1, 0.0625);
+        car.wheel(1, 0);
+        modelIs(car, 1, 0.0);
+        modelIs(car, 0, 0.0);
     }
 
     private static void notZeroIfAboveZero() {

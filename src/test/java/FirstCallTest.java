@@ -155,8 +155,12 @@ final class FirstCallTest {
         used.wish(1);
         used.bound(1, 3);
         used.yaw(0, 100);
-        DUE.isText("a new object", States.told(new GearBrake(4)), fresh);
-        DUE.isText("a new object after 20 steps", States.toldAfterSteps(new GearBrake(4)),
-            States.toldAfterSteps(new GearBrake(4)));
+        String usedBefore = States.told(used);
+        GearBrake next = new GearBrake(4);
+        DUE.isText("a new object", States.told(next), fresh);
+        DUE.isText("the used object", States.told(used), usedBefore);
+        next.wheel(1, 500);
+        next.step(0, 0);
+        DUE.isText("the used object, after the new one's step", States.told(used), usedBefore);
     }
 }
